@@ -264,6 +264,24 @@ public final class PromiseTests {
         due("count(7), the talk before had one", x.count(7), 0);
     }
 
+    /** A talk that comes behind others is as if it were the first one. */
+    private static void p3TalkBehindOthers() {
+        String rich = times("n>o9?qrSQ|sRTU|uvQ!qrsTUV;", 7);
+        String plain = "d>e?q|R;e>d!r;";
+        BranchingTalks x = told(rich);
+        put(x, rich.replace('n', 'c'));
+        due("talk()", x.talk(), 7);
+        put(x, plain);
+        due("talk()", x.talk(), 2);
+        same("talk() behind others", seen(x), seen(told(plain)));
+        x = told(rich);
+        put(x, rich.substring(0, 100));
+        due("talk()", x.talk(), -200);
+        put(x, plain);
+        due("talk()", x.talk(), 2);
+        same("talk() behind a fault", seen(x).substring(1), seen(told(plain)).substring(1));
+    }
+
     private static void p4Fault() {
         BranchingTalks x = new BranchingTalks();
         due("fault()", x.fault(), 0);
@@ -347,11 +365,12 @@ public final class PromiseTests {
     }
 
     private static void p6Guards() {
-        BranchingTalks x = told("a>b?qS|rs|T;");
+        BranchingTalks x = told("a>b?qS|rs|TU;");
         int[] open = new int[64];
         for (int marks = 0; marks < 64; marks++) {
             boolean q = (marks & 1) != 0, r = (marks & 2) != 0, s = (marks & 4) != 0, t = (marks & 8) != 0;
-            open[marks] = q && !s || r && s || !t ? 1 : 0;
+            boolean u = (marks & 16) != 0;
+            open[marks] = q && !s || r && s || !t && !u ? 1 : 0;
             x.begin(marks);
             due("take(0) with " + marks, x.take(0), open[marks] == 1 ? 1 : NOT);
         }
@@ -553,7 +572,8 @@ public final class PromiseTests {
         due("count(11)", x.count(11), OUTSIDE);
         due("count(-1)", x.count(-1), OUTSIDE);
         due("count(HIGH)", x.count(HIGH), OUTSIDE);
-        x = told("o.;");
+        x = told("o.;b.;");
+        due("count(7), two", x.count(7), 16386);
         due("count(3)", x.count(3), 0);
         due("count(8)", x.count(8), 0);
     }
@@ -608,6 +628,33 @@ public final class PromiseTests {
         due("line(0, 0), from the beginning, not from here", x.line(0, 0), 1);
     }
 
+    /** What was told of the states before must not stay when answers are cut, or it is begun anew. */
+    private static void p14LineAnew() {
+        BranchingTalks x = told("a>b;b>c;c.;b>b;a>d?q;");
+        due("line(0, 4)", x.line(0, 4), 0);
+        due("line(1, 3)", x.line(1, 3), 0);
+        due("whole(4)", x.whole(4), 2);
+        x.cut(1, 1);
+        due("line(0, 4), cut", x.line(0, 4), 1);
+        due("line(1, 4), cut", x.line(1, 4), 1);
+        due("whole(3), cut", x.whole(3), 3);
+        x.cut(2, 1);
+        due("line(1, 3), cut", x.line(1, 3), 1);
+        due("whole(4), cut", x.whole(4), 0);
+        due("loop(1), cut", x.loop(1), NONE);
+        x.begin(1);
+        due("whole(2), begun", x.whole(2), 10);
+        x.undo();
+        due("whole(4), undone", x.whole(4), 2);
+        x.undo();
+        due("whole(3), undone", x.whole(3), 8);
+        x.cut(0, 1);
+        x.begin(0);
+        due("line(0, 3), stuck at the beginning", x.line(0, 3), 1);
+        due("line(0, 4), stuck at the beginning", x.line(0, 4), 1);
+        due("whole(2), stuck at the beginning", x.whole(2), 1);
+    }
+
     private static void p15Least() {
         BranchingTalks x = told("a>b9;a>c1;c>d1;d>b1;a>a!q;e>a;d>f5?q;");
         due("least(0, 0)", x.least(0, 0), 0);
@@ -631,6 +678,20 @@ public final class PromiseTests {
         due("least(1, 1), undone", x.least(1, 1), 3);
         x.cut(2, 1);
         due("least(1, 1), cut", x.least(1, 1), 9);
+    }
+
+    /** The cheapest row is the longest, and its answers come from the last line to the first. */
+    private static void p15LeastTheOtherWay() {
+        BranchingTalks x = told("a>b9;a>c8;a>d7;a>e6;a>f1;f>e1;e>d1;d>c1;c>b1;a>a9!q;b>a9;");
+        due("least(0, 1)", x.least(0, 1), 0);
+        due("least(5, 1)", x.least(5, 1), 1);
+        due("least(4, 1)", x.least(4, 1), 2);
+        due("least(3, 1)", x.least(3, 1), 3);
+        due("least(2, 1)", x.least(2, 1), 4);
+        due("least(1, 1)", x.least(1, 1), 5);
+        x = told("a>a9!q;a>b9?q!Q;b>a9!r;b>c9?r;");
+        due("least(0, 1)", x.least(0, 1), 0);
+        due("least(2, 1)", x.least(2, 1), 54);
     }
 
     private static void p16Row() {
@@ -698,6 +759,9 @@ public final class PromiseTests {
         due("loop(3), cut", x.loop(3), NONE);
         x = told("a>a?Q!q;a>a?q!Q;");
         due("loop(0), by its marks", x.loop(0), 2);
+        x = told("a>a;b>a;");
+        due("loop(0), by the first answer", x.loop(0), 1);
+        due("whole(4)", x.whole(4), 1);
         x = told("a>a!q;a.;");
         due("loop(0), an ending", x.loop(0), NONE);
         x = told("a>a?Q!q;a>b?q;b>a?R!r;");
@@ -736,7 +800,13 @@ public final class PromiseTests {
         x = told("a>b;b>c?q;a.;");
         due("mark(0, 3), behind an ending", x.mark(0, 3), 1);
         due("mark(1, 3), not asked for", x.mark(1, 3), 0);
-        x = told("a>b?q;");
+        x = told("a>b?q|r|s;");
+        x.begin(4);
+        due("mark(0, 0), the first alternative", x.mark(0, 0), 1);
+        due("mark(1, 0), the second", x.mark(1, 0), 1);
+        due("mark(0, 3)", x.mark(0, 3), 1);
+        x.begin(0);
+        due("mark(0, 3), at the beginning", x.mark(0, 3), 0);
         x.cut(0, 1);
         due("mark(0, 0), cut", x.mark(0, 0), 1);
         due("mark(0, 3), cut", x.mark(0, 3), 1);
@@ -752,6 +822,9 @@ public final class PromiseTests {
         due("whole(8)", x.whole(8), OUTSIDE);
         due("whole(-1)", x.whole(-1), OUTSIDE);
         due("whole(HIGH)", x.whole(HIGH), OUTSIDE);
+        x = told("c>d;a>d;c>e?q|Q;");
+        int[] two = {3, 1, 24, 28, 0, 2, 0, 1};
+        for (int what = 0; what < two.length; what++) due("whole(" + what + "), two", x.whole(what), two[what]);
         x = told("p.;");
         int[] alone = {1, 0, 0, 0, 0, 0, 1, 0};
         for (int what = 0; what < alone.length; what++) due("whole(" + what + "), alone", x.whole(what), alone[what]);
@@ -785,6 +858,13 @@ public final class PromiseTests {
         due("rows(15, 15)", x.rows(15, 15), 1);
         due("rows(15, 16)", x.rows(15, 16), 12);
         due("rows(15, 80)", x.rows(15, 80), FULL);
+        due("cut(27, 1)", x.cut(27, 1), 27);
+        due("whole(0), the ring cut", x.whole(0), 1024);
+        due("whole(2), the ring cut", x.whole(2), 32768);
+        due("whole(4), the ring cut", x.whole(4), 1);
+        due("must(15, 14), the ring cut", x.must(15, 14), 26);
+        due("undo()", x.undo(), 0);
+        due("whole(4), laid again", x.whole(4), 65535);
     }
 
     private static void p23Rows() {
@@ -835,6 +915,7 @@ public final class PromiseTests {
         promise = "promise 1"; p1NewObject();
         promise = "promise 2"; p2Write();
         promise = "promise 3"; p3TalkRight(); p3TalkMisplaced(); p3TalkOtherFaults(); p3TalkInPlace();
+        p3TalkBehindOthers();
         promise = "promise 4"; p4Fault();
         promise = "promise 5"; p5Begin();
         promise = "promise 6"; p6Take(); p6Guards();
@@ -845,8 +926,8 @@ public final class PromiseTests {
         promise = "promise 11"; p11Answer();
         promise = "promise 12"; p12Count();
         promise = "promise 13"; p13Step();
-        promise = "promise 14"; p14Line();
-        promise = "promise 15"; p15Least();
+        promise = "promise 14"; p14Line(); p14LineAnew();
+        promise = "promise 15"; p15Least(); p15LeastTheOtherWay();
         promise = "promise 16"; p16Row();
         promise = "promise 17"; p17Needs();
         promise = "promise 18"; p18Must();
