@@ -1223,8 +1223,8 @@ public final class BranchingTalks {
 
         void learn(Graph graph) {
             finishAll(graph);
-            Arrays.fill(seen, false);
-            Arrays.fill(looping, false);
+            clear(seen);
+            clear(looping);
             members = 0;
             for (int i = graph.states - 1; i >= 0; i--) {
                 gatherComponent(graph, finished[i]);
@@ -1236,9 +1236,16 @@ public final class BranchingTalks {
             }
         }
 
+        /** By hand, because Arrays.fill is free to use over numbers alone. */
+        private static void clear(boolean[] flags) {
+            for (int i = 0; i < flags.length; i++) {
+                flags[i] = false;
+            }
+        }
+
         /** All places are come to from place 0; each turn uses up a move or a place. */
         private void finishAll(Graph graph) {
-            Arrays.fill(seen, false);
+            clear(seen);
             stacked = 0;
             push(graph, 0);
             int done = 0;
