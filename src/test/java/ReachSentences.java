@@ -83,6 +83,14 @@ public final class ReachSentences extends Sentences {
         tells("a>a?Q!q;a>a?q!Q;", "loop(0)=2");
     }
 
+    /** 32 answers, each open in 64 states: more ways than these can no talk have. */
+    private void mostWays() {
+        says(THREE, "by OPEN ANSWERS;");
+        tells(LAYING + times("a>a9;", 25) + "a>b9;", "whole(0)=128 whole(1)=0 whole(2)=2 whole(3)=3 whole(4)=1 whole(5)=32"
+                + " whole(6)=0 whole(7)=7 line(0,0)=64 line(1,4)=64 least(1,0)=1 least(1,1)=9 needs(1)=0 must(1,0)=31 must(1,1)=NONE"
+                + " loop(0)=1 loop(1)=NONE use(31)=2 use(0)=2 mark(5,2)=1 rows(1,1)=1 rows(1,2)=31 rows(0,2)=961 row(1,0)=31");
+    }
+
     // ---- promises 14 to 16
 
     private void promise14() {
@@ -120,6 +128,8 @@ public final class ReachSentences extends Sentences {
         // not the same row: the one is shorter, the other cheaper
         tells("a>b9;a>c1;c>d1;d>b1;", "least(1,0)=1 least(1,1)=3 cost(0,3) least(1,1)=3 cost(0,2) least(1,1)=2 undo() undo()"
                 + " least(1,1)=3 cut(1,1) least(1,1)=9 least(1,0)=1");
+        // the cheapest way is the longest, by answers from the last line to the first
+        tells("a>b9;a>c8;a>d7;a>e6;a>f1;f>e1;e>d1;d>c1;c>b1;", "least(1,1)=5 least(2,1)=4 least(3,1)=3 least(4,1)=2 least(1,0)=1");
         // nor the same state of the line
         tells("a>b9!q;a>c;c>b1!r;", "least(1,0)=1 least(1,1)=1");
         // no way leads on through an ending
@@ -203,6 +213,7 @@ public final class ReachSentences extends Sentences {
         tells("a>b;a>c;c>b;b>d;", "must(3,0)=3 must(3,1)=NONE");
         tells(times("a>a;", 31) + "a>b;", "must(1,0)=31 must(1,1)=NONE must(0,0)=NONE");
         tells(LONG, "must(15,0)=0 must(15,13)=13 must(15,19)=19 must(15,20)=20 must(15,21)=NONE must(14,13)=13 must(14,14)=NONE");
+        tells("a>b;" + times("b>b;", 31), "must(1,0)=0 must(1,1)=NONE must(0,0)=NONE needs(1)=0");
         says(p, "NONE: not so many, or it is not REACHED.");
         tells("a>b;c>a;", "must(0,0)=NONE must(0,HIGH)=NONE must(1,0)=0 must(1,1)=NONE must(1,HIGH)=NONE must(2,0)=NONE cut(0,1)"
                 + " must(1,0)=NONE");
@@ -309,6 +320,9 @@ public final class ReachSentences extends Sentences {
         says(p, "2 of LINES with STUCK STATES, 3 with LOST ones,");
         tells("a.;", "whole(2)=0 whole(3)=0");
         tells("a>p;", "whole(2)=32768 whole(3)=32769");
+        tells("a>b;a>p;", "whole(2)=32770 whole(3)=32771");
+        tells("a>b;a>c;b>d;c.;", "whole(2)=8 whole(3)=10");
+        tells(RING, "whole(2)=0 whole(3)=65535 cut(21,1) whole(2)=32768 line(15,3)=1");
         tells("a>b;a>c;c.;", "whole(2)=2 whole(3)=2 cut(1,1) whole(3)=3 whole(2)=2");
         tells("a>a;", "whole(2)=0 whole(3)=1");
         says(p, "4 of LINES that have a LOOP from a REACHED STATE of theirs,");
@@ -316,6 +330,16 @@ public final class ReachSentences extends Sentences {
         tells("a.;", "whole(4)=0");
         tells("p>p;", "whole(4)=32768");
         tells("a>b;b>c;c>b;c>d;d>e;e>d;", "whole(4)=30");
+        // two ways to one state are no loop
+        tells("a>b;a>c;c>b;", "whole(4)=0");
+        tells("a>b;a>c;c>d;d>b;", "whole(4)=0");
+        tells("a>b;a>c;b>d;", "whole(4)=0");
+        // asked again of a greater talk, and of a smaller one
+        Tried t = told("a.;", "whole(4)=0");
+        put(t, "a>b;b>c;c>b;c>d;");
+        expect(t, "talk()=4 whole(4)=6 loop(1)=2 cut(2,1) whole(4)=0 undo() whole(4)=6");
+        put(t, "a>b;b>a;");
+        expect(t, "talk()=2 whole(4)=3 cut(1,1) whole(4)=0");
         tells(RING, "whole(4)=65535 cut(21,1) whole(4)=0");
         says(p, "5 the most ANSWERS that a REACHED STATE has OPEN,");
         tells("a.;a>b;", "whole(5)=0");
@@ -392,6 +416,7 @@ public final class ReachSentences extends Sentences {
     private void all() {
         reached();
         stuckAndLost();
+        mostWays();
         promise14();
         promise15();
         promise16();

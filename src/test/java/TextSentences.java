@@ -419,6 +419,19 @@ public final class TextSentences extends Sentences {
             put(t, plain);
             expect(t, "talk()=4");
             same("talk() behind " + before, traces(t), traces(told(plain, "")));
+            // behind two talks, and behind one with a fault
+            t = told(before, "cut(0,1)");
+            put(t, before.length() <= 100 ? before : before.substring(0, 78));
+            expect(t, "talk() cut(0,1) cut(1,1)");
+            put(t, plain);
+            expect(t, "talk()=4");
+            same("talk() behind two of " + before, traces(t), traces(told(plain, "")));
+            t = new Tried();
+            put(t, before + "x");
+            expect(t, "talk() fault()=1");
+            put(t, plain);
+            expect(t, "talk()=4 fault()=0");
+            same("talk() behind a fault", traces(t), traces(told(plain, "")));
         }
         says(ONE, "it is BEGUN, without MARKS;");
         t = told("b>a!q;a>b;", "begin(5) take(0) take(1) count(2)=2 count(1)=5");
