@@ -14,6 +14,7 @@ public final class BranchingTalks {
     private static final int ANSWERS = 32, ALTERNATIVES = 3, MOVES = 2048;
     private static final int GREATEST_COST = 9, BYTES = 200, STEPS = 60, ACTS = 12, LONGEST_ROW = 80;
     private static final int FIRST_WANTS = 10, FAULT_BASE = -100;
+    private static final long MOST_ROWS = 9223372036854775807L;
 
     private final Reader reader;
     private final Course course;
@@ -560,6 +561,9 @@ public final class BranchingTalks {
         final int[] byLine = new int[ANSWERS];
         final int[] firstOfLine = new int[LINES + 1];
         int answers;
+        /** The answer, and the place of the alternative, that were added last. */
+        int latest;
+        int latestAlternative;
         int there;
         int endings;
         int start;
@@ -567,6 +571,8 @@ public final class BranchingTalks {
 
         void clear() {
             answers = 0;
+            latest = 0;
+            latestAlternative = 0;
             there = 0;
             endings = 0;
             start = 0;
@@ -585,25 +591,26 @@ public final class BranchingTalks {
             if (answers >= ANSWERS) {
                 return false;
             }
-            from[answers] = line;
-            to[answers] = line;
-            price[answers] = 0;
-            alternatives[answers] = 0;
-            lays[answers] = 0;
-            takes[answers] = 0;
+            latest = answers;
             answers++;
+            from[latest] = line;
+            to[latest] = line;
+            price[latest] = 0;
+            alternatives[latest] = 0;
+            lays[latest] = 0;
+            takes[latest] = 0;
             return true;
         }
 
-        /** Answers whether there was room. */
-        boolean addAlternative(int answer) {
-            if (alternatives[answer] >= ALTERNATIVES) {
+        /** To the answer that was added last; answers whether there was room. */
+        boolean addAlternative() {
+            if (alternatives[latest] >= ALTERNATIVES) {
                 return false;
             }
-            int at = answer * ALTERNATIVES + alternatives[answer];
-            wants[at] = 0;
-            bars[at] = 0;
-            alternatives[answer]++;
+            latestAlternative = latest * ALTERNATIVES + alternatives[latest];
+            alternatives[latest]++;
+            wants[latestAlternative] = 0;
+            bars[latestAlternative] = 0;
             return true;
         }
 
@@ -612,7 +619,7 @@ public final class BranchingTalks {
             for (int line = 0; line < LINES; line++) {
                 firstOfLine[line] = sorted;
                 for (int answer = 0; answer < answers; answer++) {
-                    if (from[answer] == line) {
+                    if (from[answer] == line && sorted < ANSWERS) {
                         byLine[sorted] = answer;
                         sorted++;
                     }
@@ -790,7 +797,7 @@ public final class BranchingTalks {
                 return MISPLACED;
             }
             script.nameLine(letter - 'a');
-            script.to[script.answers - 1] = letter - 'a';
+            script.to[script.latest] = letter - 'a';
             return goOn(BEHIND_TO);
         }
 
@@ -798,7 +805,7 @@ public final class BranchingTalks {
             if (letter < '0' || letter > '9') {
                 return acceptRest(letter, script);
             }
-            script.price[script.answers - 1] = letter - '0';
+            script.price[script.latest] = letter - '0';
             return goOn(BEHIND_COST);
         }
 
@@ -814,7 +821,7 @@ public final class BranchingTalks {
         }
 
         private int openAlternative(Script script) {
-            return script.addAlternative(script.answers - 1) ? goOn(AT_ALTERNATIVE) : FOURTH_ALTERNATIVE;
+            return script.addAlternative() ? goOn(AT_ALTERNATIVE) : FOURTH_ALTERNATIVE;
         }
 
         private int acceptAsked(int letter, Script script) {
@@ -823,10 +830,8 @@ public final class BranchingTalks {
             if ((wanted | barred) == 0) {
                 return MISPLACED;
             }
-            int answer = script.answers - 1;
-            int at = answer * ALTERNATIVES + script.alternatives[answer] - 1;
-            script.wants[at] |= wanted;
-            script.bars[at] |= barred;
+            script.wants[script.latestAlternative] |= wanted;
+            script.bars[script.latestAlternative] |= barred;
             return goOn(IN_ALTERNATIVE);
         }
 
@@ -843,7 +848,7 @@ public final class BranchingTalks {
             if ((laid | taken) == 0) {
                 return MISPLACED;
             }
-            int answer = script.answers - 1;
+            int answer = script.latest;
             if (((script.lays[answer] | script.takes[answer]) & (laid | taken)) != 0) {
                 return NAMED_AGAIN;
             }
@@ -972,7 +977,11 @@ public final class BranchingTalks {
             turnRound();
         }
 
-        private void admit(int found, int answers, int move) {
+        /** Answers whether there was room. */
+        private boolean admit(int found, int answers, int move) {
+            if (states >= STATES) {
+                return false;
+            }
             place[found] = states;
             state[states] = found;
             depth[states] = answers;
@@ -981,6 +990,7 @@ public final class BranchingTalks {
                 nearest[found / MARK_SETS] = states;
             }
             states++;
+            return true;
         }
 
         private void addMovesFrom(int at, Script script) {
@@ -989,16 +999,19 @@ public final class BranchingTalks {
             for (int i = script.firstOfLine[line]; i < script.firstOfLine[line + 1]; i++) {
                 int answer = script.byLine[i];
                 if (script.isOpen(answer, line, marks)) {
-                    int next = script.stateBehind(answer, marks);
-                    if (place[next] == NONE) {
-                        admit(next, depth[at] + 1, moves);
-                    }
-                    moveFrom[moves] = at;
-                    moveTo[moves] = place[next];
-                    moveAnswer[moves] = answer;
-                    moves++;
+                    addMove(at, answer, script.stateBehind(answer, marks));
                 }
             }
+        }
+
+        private void addMove(int from, int answer, int next) {
+            if (moves >= MOVES || place[next] == NONE && !admit(next, depth[from] + 1, moves)) {
+                return;
+            }
+            moveFrom[moves] = from;
+            moveTo[moves] = place[next];
+            moveAnswer[moves] = answer;
+            moves++;
         }
 
         private void turnRound() {
@@ -1131,7 +1144,7 @@ public final class BranchingTalks {
         }
 
         private void enqueue(int at, int answers) {
-            if (distance[at] == NONE) {
+            if (distance[at] == NONE && queued < STATES) {
                 distance[at] = answers;
                 queue[queued] = at;
                 queued++;
@@ -1198,7 +1211,7 @@ public final class BranchingTalks {
         }
 
         private void admit(int at) {
-            if (!canEnd[at]) {
+            if (!canEnd[at] && queued < STATES) {
                 canEnd[at] = true;
                 queue[queued] = at;
                 queued++;
@@ -1249,7 +1262,7 @@ public final class BranchingTalks {
             stacked = 0;
             push(graph, 0);
             int done = 0;
-            for (int turn = 0; turn < STATES + MOVES && stacked > 0; turn++) {
+            for (int turn = 0; turn < STATES + MOVES && stacked > 0 && done < STATES; turn++) {
                 int at = stack[stacked - 1];
                 if (nextMove[at] < graph.first[at + 1]) {
                     int to = graph.moveTo[nextMove[at]];
@@ -1264,7 +1277,7 @@ public final class BranchingTalks {
         }
 
         private void push(Graph graph, int at) {
-            if (!seen[at]) {
+            if (!seen[at] && stacked < STATES) {
                 seen[at] = true;
                 nextMove[at] = graph.first[at];
                 stack[stacked] = at;
@@ -1289,7 +1302,7 @@ public final class BranchingTalks {
         }
 
         private void join(int at) {
-            if (!seen[at]) {
+            if (!seen[at] && members < STATES) {
                 seen[at] = true;
                 member[members] = at;
                 members++;
@@ -1346,7 +1359,7 @@ public final class BranchingTalks {
             long sum = 0L;
             for (int at = 0; at < graph.states; at++) {
                 if (graph.lineAt(at) == line) {
-                    if (now[at] > Long.MAX_VALUE - sum) {
+                    if (now[at] > MOST_ROWS - sum) {
                         return FULL;
                     }
                     sum += now[at];
@@ -1361,7 +1374,7 @@ public final class BranchingTalks {
             for (int move = 0; move < graph.moves; move++) {
                 long more = now[graph.moveFrom[move]];
                 int to = graph.moveTo[move];
-                if (more > Long.MAX_VALUE - next[to]) {
+                if (more > MOST_ROWS - next[to]) {
                     return false;
                 }
                 next[to] += more;

@@ -5,10 +5,12 @@ import java.lang.reflect.Method;
 import java.lang.reflect.Modifier;
 import java.nio.file.Files;
 import java.nio.file.Path;
+import java.util.ArrayList;
 import java.util.Arrays;
 import java.util.List;
 import java.util.Set;
 import java.util.TreeSet;
+import java.util.regex.Matcher;
 import java.util.regex.Pattern;
 
 /** The document's face, and those rules of LANGUAGE.md that a look from outside can tell. */
@@ -112,11 +114,49 @@ public final class FaceTests {
         }
     }
 
+    /** Of the library only what rule 4 has; its constants are not there, nor functions over other things than numbers. */
+    private static void theLibrary() throws IOException {
+        Set<String> free = Set.of("Arrays.fill", "System.arraycopy", "Integer.bitCount", "Math.max", "Math.min");
+        Pattern used = Pattern.compile("\\b(Arrays|System|Integer|Long|Math|String|Character|Boolean)\\.(\\w+)");
+        for (String line : Files.readAllLines(SOURCE)) {
+            String code = line.trim().startsWith("*") || line.trim().startsWith("/") ? "" : line.replaceAll("^import .*", "");
+            Matcher m = used.matcher(code);
+            while (m.find()) require(free.contains(m.group()), m.group() + " is not in rule 4: " + line);
+        }
+    }
+
+    /** Each method of the source, from its head to its last brace; those of classes inside stand deeper. */
+    private static List<String> methods() throws IOException {
+        Pattern method = Pattern.compile("(?m)^( {4}| {8})[^\\s/*].*\\(.*\\) \\{$(?s:.*?)^\\1\\}$");
+        List<String> found = new ArrayList<>();
+        Matcher m = method.matcher(Files.readString(SOURCE));
+        while (m.find()) found.add(m.group());
+        return found;
+    }
+
+    /** Rule 11 on lengths; rule 7 where a row grows: how long it is must be looked at in the same method. */
+    private static void theBodies() throws IOException {
+        List<String> methods = methods();
+        require(methods.size() > 100, "the methods are found, there are " + methods.size());
+        Pattern growing = Pattern.compile("\\w+\\[(\\w+)\\] = [^;]*;(?s:.*?)\\b\\1\\+\\+;");
+        for (String body : methods) {
+            String head = body.substring(0, body.indexOf('\n')).trim();
+            require(body.lines().count() <= 60, head + " has at most sixty lines");
+            Matcher m = growing.matcher(body);
+            while (m.find()) {
+                boolean lookedAt = Pattern.compile("\\b" + m.group(1) + " (<|>=) [A-Z]+\\b").matcher(body).find();
+                require(lookedAt, head + " looks at " + m.group(1) + " before it is an index");
+            }
+        }
+    }
+
     public static void main(String[] args) throws Exception {
         theClass();
         theMethods();
         theFields();
         theSource();
+        theLibrary();
+        theBodies();
         System.out.println(wrong == 0 ? "the face is as the document has it" : wrong + " things are not as told");
         if (wrong != 0) System.exit(1);
     }

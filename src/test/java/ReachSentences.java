@@ -7,6 +7,7 @@ public final class ReachSentences extends Sentences {
     private static final String STORY = "a>b3?q|R!rS;a>a!q;b>c?q;c.;b>d;d>d;";
     private static final String DEEDS = "begin(4) take(1) take(0) cut(3,1) cost(0,7) cost(1,0)";
     private static final String LAYING = "a>a!q;a>a!r;a>a!s;a>a!t;a>a!u;a>a!v;";
+    private static final String TAKING = "a>a!Q;a>a!R;a>a!S;a>a!T;a>a!U;a>a!V;";
 
     /** Answers that count the marks up by one, as bits, each of them so many times. */
     private static String counter(String way, int copies) {
@@ -29,6 +30,9 @@ public final class ReachSentences extends Sentences {
     private static final String RING = chain('a', 'p', "") + counter("p>a", 1) + "p>a?qrstuv!QRSTUV;";
     /** Line p is come to behind 960 answers alone, each of cost 9: 14 links, 6 that count, the last one. */
     private static final String LONG = chain('a', 'o', "9") + counter("o>a9", 1) + "o>p9?qrstuv;";
+
+    /** All 1024 states, and 32 answers each of which is open in all 64 of its line. */
+    private static final String FULLEST = chain('a', 'p', "") + "p>a;" + LAYING + TAKING + times("a>a;", 4);
 
     // ---- Terms, part 3
 
@@ -89,6 +93,12 @@ public final class ReachSentences extends Sentences {
         tells(LAYING + times("a>a9;", 25) + "a>b9;", "whole(0)=128 whole(1)=0 whole(2)=2 whole(3)=3 whole(4)=1 whole(5)=32"
                 + " whole(6)=0 whole(7)=7 line(0,0)=64 line(1,4)=64 least(1,0)=1 least(1,1)=9 needs(1)=0 must(1,0)=31 must(1,1)=NONE"
                 + " loop(0)=1 loop(1)=NONE use(31)=2 use(0)=2 mark(5,2)=1 rows(1,1)=1 rows(1,2)=31 rows(0,2)=961 row(1,0)=31");
+        // and all 1024 states with them
+        tells(FULLEST, "whole(0)=1024 whole(1)=0 whole(2)=0 whole(3)=65535 whole(4)=65535 whole(5)=17 whole(6)=0 whole(7)=21"
+                + " line(0,0)=64 line(15,0)=64 line(15,1)=0 line(15,2)=63 line(15,4)=64 least(15,0)=15 least(15,1)=0 needs(15)=0"
+                + " must(15,14)=14 must(15,15)=NONE row(15,14)=14 row(15,15)=NONE loop(0)=1 loop(7)=16 loop(15)=16 use(0)=2"
+                + " use(15)=2 use(31)=2 rows(0,15)=1152921504606846976 rows(0,16)=FULL rows(7,17)=1099511627776 rows(15,17)=256"
+                + " cut(15,1)=31 whole(0)=1024 whole(2)=32768 whole(4)=1 loop(7)=NONE undo()=0 whole(4)=65535 loop(7)=16");
     }
 
     // ---- promises 14 to 16
